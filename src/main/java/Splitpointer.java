@@ -275,7 +275,7 @@ public final class Splitpointer {
     }
 
     public boolean isSound() {
-        return unflushed < group && file.isWhole();
+        return file.isWhole() && unflushed < group;
     }
 
     public long digest() {
@@ -296,7 +296,7 @@ public final class Splitpointer {
         sum = mix(sum, file.visitCount(true, 0));
         sum = mix(sum, file.visitCount(false, 0));
         sum = mix(sum, crashGain());
-        return mix(sum, isSound() ? 1 : 0);
+        return mix(sum, file.isWhole() && unflushed < group ? 1 : 0);
     }
 
     private static void requireArgument(boolean isRight) {
@@ -534,8 +534,9 @@ public final class Splitpointer {
         }
 
         int addressOf(int hash) {
-            int address = hash & (base() - 1);
-            return address >= pointer ? address : hash & (2 * base() - 1);
+            int base = 2 << level;
+            int address = hash & (base - 1);
+            return address >= pointer ? address : hash & (2 * base - 1);
         }
 
         int depthOf(int bucket) {
@@ -694,9 +695,16 @@ public final class Splitpointer {
             behinds.fill(NONE);
         }
 
-        void release(int page) {
-            empty(page);
-            owners.set(page, NONE);
+        /** That PAGE is FREE, and all behind it. */
+        void releaseFrom(int start) {
+            int page = start;
+            for (int step = 0; step < PAGES && page != NONE; step++) {
+                int behind = behinds.at(page);
+                sizes.set(page, 0);
+                owners.set(page, NONE);
+                behinds.set(page, NONE);
+                page = behind;
+            }
         }
 
         void empty(int page) {
@@ -747,7 +755,8 @@ public final class Splitpointer {
         void add(int page, int key, int value) {
             int size = sizes.at(page);
             if (size < MAX_CAP) {
-                write(page, size, key, value);
+                keys.set(page * MAX_CAP + size, key);
+                values.set(page * MAX_CAP + size, value);
                 sizes.set(page, size + 1);
             }
         }
@@ -857,7 +866,7 @@ public final class Splitpointer {
         }
 
         void enter(int key, int value) {
-            appendByAddress(key, value);
+            append(addressOf(key), key, value);
             records++;
             for (int i = 0; i < MAX_BUCKETS && load() > upper; i++) {
                 splitOnce();
@@ -888,7 +897,8 @@ public final class Splitpointer {
             allRecords();
             hashing.become(choice, seed);
             makeEmpty();
-            for (int i = 0; i < all.size; i++) {
+            int count = all.size;
+            for (int i = 0; i < count; i++) {
                 enter(all.keyAt(i), all.valueAt(i));
             }
         }
@@ -1081,11 +1091,6 @@ public final class Splitpointer {
             filters.set(bucket, 0);
         }
 
-        private void appendByAddress(int key, int value) {
-            int hash = hashing.hashOf(key);
-            append(shape.addressOf(hash), key, value);
-        }
-
         private void append(int bucket, int key, int value) {
             int page = lasts.at(bucket);
             if (pages.sizeOf(page) >= cap) {
@@ -1115,8 +1120,10 @@ public final class Splitpointer {
             startBucket(made);
             shape.grow();
             splits++;
-            for (int i = 0; i < moved.size; i++) {
-                appendByAddress(moved.keyAt(i), moved.valueAt(i));
+            int count = moved.size;
+            for (int i = 0; i < count; i++) {
+                int key = moved.keyAt(i);
+                append(addressOf(key), key, moved.valueAt(i));
             }
         }
 
@@ -1129,9 +1136,10 @@ public final class Splitpointer {
             int gone = shape.buckets();
             moved.clear();
             collect(gone, moved);
-            releaseFrom(firsts.at(gone));
+            pages.releaseFrom(firsts.at(gone));
             merges++;
-            for (int i = 0; i < moved.size; i++) {
+            int count = moved.size;
+            for (int i = 0; i < count; i++) {
                 append(left, moved.keyAt(i), moved.valueAt(i));
             }
             renewFilter(left);
@@ -1141,26 +1149,18 @@ public final class Splitpointer {
             filters.set(bucket, 0);
             moved.clear();
             collect(bucket, moved);
-            for (int i = 0; i < moved.size; i++) {
+            int count = moved.size;
+            for (int i = 0; i < count; i++) {
                 addToFilter(bucket, moved.keyAt(i));
             }
         }
 
         private void emptyToFirst(int bucket) {
             int first = firsts.at(bucket);
-            releaseFrom(pages.behind(first));
+            pages.releaseFrom(pages.behind(first));
             pages.empty(first);
             lasts.set(bucket, first);
             filters.set(bucket, 0);
-        }
-
-        private void releaseFrom(int start) {
-            int page = start;
-            for (int step = 0; step < PAGES && page != NONE; step++) {
-                int behind = pages.behind(page);
-                pages.release(page);
-                page = behind;
-            }
         }
 
         private void cutLast(int bucket) {
@@ -1170,7 +1170,7 @@ public final class Splitpointer {
                 page = pages.behind(page);
             }
             pages.link(page, NONE);
-            pages.release(last);
+            pages.releaseFrom(last);
             lasts.set(bucket, page);
         }
 
