@@ -868,7 +868,7 @@ public final class Splitpointer {
         void enter(int key, int value) {
             append(addressOf(key), key, value);
             records++;
-            for (int i = 0; i < MAX_BUCKETS && load() > upper; i++) {
+            for (int made = shape.buckets(); made < MAX_BUCKETS && load() > upper; made++) {
                 splitOnce();
             }
         }
@@ -888,7 +888,7 @@ public final class Splitpointer {
                 cutLast(bucket);
             }
             records--;
-            for (int i = 0; i < MAX_BUCKETS && load() < lower; i++) {
+            for (int left = shape.buckets(); left > FIRST_BUCKETS && load() < lower; left--) {
                 mergeOnce();
             }
         }
@@ -1109,15 +1109,11 @@ public final class Splitpointer {
         }
 
         private void splitOnce() {
-            int made = shape.buckets();
-            if (made >= MAX_BUCKETS) {
-                return;
-            }
             int old = shape.pointer;
             moved.clear();
             collect(old, moved);
             emptyToFirst(old);
-            startBucket(made);
+            startBucket(shape.buckets());
             shape.grow();
             splits++;
             int count = moved.size;
@@ -1128,9 +1124,6 @@ public final class Splitpointer {
         }
 
         private void mergeOnce() {
-            if (shape.buckets() <= FIRST_BUCKETS) {
-                return;
-            }
             shape.shrink();
             int left = shape.pointer;
             int gone = shape.buckets();
