@@ -5,8 +5,9 @@ import java.util.Arrays;
 
 /** Every method with every mix of numbers at and beyond its edges, as the Model has it. */
 public final class EdgeTest {
-    private static final int[] EDGES = {Integer.MIN_VALUE, -3, -2, -1, 0, 1, 2, 3, 4, 5, 6, 8, 9, 10,
-        21, 22, 40, 41, 49, 50, 95, 96, 99, 100, 101, 1023, 1024, 9999, 10000, Integer.MAX_VALUE};
+    private static final int[] EDGES = {Integer.MIN_VALUE, -3, -2, -1, 0, 1, 2, 3, 4, 5, 6, 8, 9,
+        10, 21, 22, 40, 41, 49, 50, 95, 96, 99, 100, 101, 1023, 1024, 9999, 10000,
+        Integer.MAX_VALUE};
     private static final int[] FEW_EDGES = {Integer.MIN_VALUE, -1, 0, 1, 2, 3, 4, 5, 9, 10, 99, 100,
         1023, 1024, Integer.MAX_VALUE};
     private static final int CALLS = 400;
